@@ -818,10 +818,6 @@ public final class FuneralUmbrellas {
             return true;
         }
 
-        boolean passEnd() {
-            return isEnd() || fails(NO_TOKEN);
-        }
-
         /** The number that comes, or NONE and a fault. */
         int passNumber(int least, int greatest) {
             if (kind != DIGITS) {
