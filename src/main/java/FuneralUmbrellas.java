@@ -1604,8 +1604,10 @@ public final class FuneralUmbrellas {
 
         int hideAll(Scene trial) {
             trial.copyFrom(now);
-            int rounds = 1;
-            while (rounds < MOST_ROUNDS && hideRound(trial)) {
+            int rounds = 0;
+            boolean gone = true;
+            while (gone && rounds < MOST_ROUNDS) {
+                gone = hideRound(trial);
                 rounds++;
             }
             for (int p = 0; p < hiddenAt.length; p++) {
