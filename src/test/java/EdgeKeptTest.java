@@ -227,6 +227,9 @@ final class EdgeKeptTest {
         dueSaid(x, "ahead=0", 2);
         // or, and, not: not binds most, or least
         dueSaid(x, "number=0 or number=1 and number=2", 1);
+        dueSaid(x, "number=0 and number=1 or number=2", 4);
+        dueSaid(x, "number=2 or number=0 and number=1 or number=0", 5);
+        dueSaid(x, "number<2 and number>0 and heeds or number<2 and number>0", 2);
         dueSaid(x, "not number=0 and number=1", 2);
         dueSaid(x, "not number=0 or number=0", 7);
         dueSaid(x, "not(number=0 or number=1)", 4);

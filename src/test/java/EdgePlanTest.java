@@ -231,6 +231,22 @@ final class EdgePlanTest {
         Check.due("a, a, b, c", x.toldAt(0) * 1000 + x.toldAt(1) * 100 + x.toldAt(2) * 10 + x.toldAt(3), 12);
         x.take(1, 0);
         Check.due("all stays", x.umbrella(0, 1) * 10 + x.umbrella(0, 0), -10);
+        // five places and four days: the last setting of all, and one in which each day has another place
+        String five = "place a;place b;place c;place d;place e;";
+        FuneralUmbrellas last = Check.of(five + "person p e heeds;sorrow p 1 1;sorrow p 2 1;sorrow p 3 1;sorrow p 4 1;"
+                + "brolly u a 1;far 1;");
+        Check.due("each day there", last.toldOf(0, 4), 4);
+        for (int k = 0; k < 4; k++) {
+            Check.due("the last place", last.toldAt(k), 4);
+        }
+        FuneralUmbrellas down = Check.of(five + "person p b heeds;person q c heeds;person r d heeds;person s e heeds;"
+                + "sorrow p 4 1;sorrow q 3 1;sorrow r 2 1;sorrow s 1 1;brolly u a 4;far 1;");
+        Check.due("one a day", down.toldOf(0, 4), 4);
+        Check.due("the other two first", down.toldOf(0, 2) * 100 + down.toldAt(0) * 10 + down.toldAt(1), 212);
+        down.toldOf(0, 4);
+        for (int k = 0; k < 4; k++) {
+            Check.due("e, d, c, b", down.toldAt(k), 4 - k);
+        }
         // carried: it is taken from him for it, and all stays
         FuneralUmbrellas carried = Check.of("place a;place b;person p a heeds;person q b heeds;sorrow p 1 5;sorrow q 2 6;brolly u a 1;");
         carried.take(0, 0);
@@ -422,7 +438,9 @@ final class EdgePlanTest {
             Check.due("one place", one.turns(0, 0, n), 1);
         }
         one.days(2);
-        Check.due("that day is past", one.turns(0, 0, 1), 0);
+        for (int n = 1; n <= 6; n++) {
+            Check.due("that day is past", one.turns(0, 0, n), 0);
+        }
         // it is open for another one, too, who stays
         FuneralUmbrellas other = Check.of("place a;place b;person p a;person q b;sorrow q 2 1;brolly u a 1;");
         for (int n = 1; n <= 6; n++) {
@@ -450,6 +468,11 @@ final class EdgePlanTest {
         Check.due("where p is", x.turn(), 2);
         x.turns(0, 0, 3);
         Check.due("all are like: to stay", x.turn(), 1);
+        FuneralUmbrellas first = Check.of("place a;place b;place c;person p c;sorrow p 2 1;brolly u a 1;");
+        for (int n = 2; n <= 6; n++) {
+            first.turns(0, 0, n);
+            Check.due("all are like: to stay in the first", first.turn(), 0);
+        }
         x.turns(0, 2, 1);
         x.turns(3, 0, 1);
         Check.due("the latest that was not NONE", x.turn(), 1);
@@ -536,7 +559,7 @@ final class EdgePlanTest {
 
     /** The model draws as the document says; the class must have drawn the same at each seed. */
     private static void seeds() {
-        String[] towns = {TOWN, "place a;person p a;", "place a;place b;person p a;person q b heeds;sorrow q 9 9;sorrow p 20 2;",
+        String[] towns = {TOWN, "place a;person p a;", "place a;place b;person p a;person q a;brolly u a 1;", "place a;place b;person p a;person q b heeds;sorrow q 9 9;sorrow p 20 2;",
             TOWN + "place d;place e;person s e;brolly y d 10;far 5;"};
         for (String town : towns) {
             for (int seed : SEEDS) {

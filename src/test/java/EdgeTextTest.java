@@ -408,6 +408,13 @@ final class EdgeTextTest {
         wrongTown("far 1", 5, 1);
         wrongTown(";", 0, 1);
         wrongTown("heeds;", 0, 1);
+        // a line that ends too soon, with a whole one behind it
+        String[] parts = {"place", "person", "person x", "sorrow", "sorrow p", "sorrow p 1", "brolly", "brolly x",
+            "brolly x l", "far"};
+        for (String part : parts) {
+            wrongTown("place l;person p l;" + part + ";place m;", 19 + part.length(), 1);
+            wrongTown("place l;person p l;" + part + " ;", 20 + part.length(), 1);
+        }
         // a town that is whole takes the place of all that was: day, acts, sentence, what could be undone
         FuneralUmbrellas x = Check.of(SMALL);
         x.take(0, 0);
@@ -417,6 +424,33 @@ final class EdgeTextTest {
         Check.due("a new town", Check.town(x, SMALL), 5);
         Check.due("as if it were the first", Check.all(x).equals(Check.all(Check.of(SMALL))), true);
         Check.due("nothing can be undone", x.undo(), -1);
+        smallerBehindFull();
+    }
+
+    /** Nothing is left of a town that had the most of all, nor of one that had a fault. */
+    private static void smallerBehindFull() {
+        String full = lines("", "place l", ";", 5) + lines("", "person p", " la heeds;", 7)
+                + lines("", "brolly u", " la 12;", 6) + lines("", "sorrow pa 5 20", ";", 14) + "far 5;";
+        String[] small = {"", "place x;", SMALL, "place x;person y x;sorrow y 5 1;", "place x;person y x;brolly z x 2;",
+            "place x;place y;person z y;person w y;sorrow w 9 9;sorrow z 2 2;brolly v x 3;"};
+        for (String text : small) {
+            FuneralUmbrellas x = Check.of(full);
+            FuneralUmbrellas fresh = new FuneralUmbrellas();
+            x.days(3);
+            Check.town(x, full + "far 5;");
+            Check.due("a small town behind a full one", Check.town(x, text), Check.town(fresh, text));
+            for (int i = 0; i < 6; i++) {
+                Check.due("as in a fresh object", Check.all(x).equals(Check.all(fresh)), true);
+                Check.due("sorry(199)", x.sorry(199), fresh.sorry(199));
+                Check.due("weeps(60)", x.weeps(60), fresh.weeps(60));
+                Check.due("cover()", x.cover(), fresh.cover());
+                Check.due("hiding()", x.hiding(), fresh.hiding());
+                Check.due("toldOf(0, 2)", x.toldOf(0, 2), fresh.toldOf(0, 2));
+                Check.due("turns(0, 0, 2)", x.turns(0, 0, 2), fresh.turns(0, 0, 2));
+                Check.due("odds(0, 9, 9)", x.odds(0, 9, 9), fresh.odds(0, 9, 9));
+                Check.due("drawn(2, 6)", x.drawn(2, 6), fresh.drawn(2, 6));
+            }
+        }
     }
 
     // ---- a book
@@ -444,6 +478,10 @@ final class EdgeTextTest {
         wrongBook("day", 3, 1);
         wrongBook("day 1", 5, 1);
         wrongBook("day 1;;", 6, 1);
+        for (String part : new String[] {"p", "p goes", "p takes", "p leaves", "funeral", "day"}) {
+            wrongBook(part + ";day 1;", part.length(), 1);
+            wrongBook("day 1;" + part + " ;", 7 + part.length(), 1);
+        }
         for (String word : KEPT) {
             wrongBook("p goes " + word + ";", 7, 1);
             wrongBook("p takes " + word + ";", 8, 1);

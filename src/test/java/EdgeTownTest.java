@@ -52,6 +52,8 @@ final class EdgeTownTest {
         Check.dueThrown("person(3, 7)", () -> x.person(3, 7));
         Check.due("person(2, 6)", x.person(2, 6), 0);
         Check.due("person(2, 0)", x.person(2, 0), 1);
+        Check.due("p heeds", x.person(0, 1), 1);
+        Check.due("q does not", x.person(1, 1), 0);
         FuneralUmbrellas none = new FuneralUmbrellas();
         Check.dueThrown("person(0, 0) of an empty town", () -> none.person(0, 0));
         Check.due("two sorrows ahead", x.person(0, 2), 2);
